@@ -135,7 +135,7 @@ public final class YesNoPowers {
         }
         int had = slots[slot].n;
         if (had > 0) {
-            made.becomeEmpty(0);
+            made.n = 0;
             hold(slot);
         }
         return had;
@@ -159,7 +159,7 @@ public final class YesNoPowers {
         if (source.lacks(from, n)) {
             return OUTSIDE;
         }
-        made.becomeEmpty(n);
+        made.n = n;
         for (int i = 0; i < n; i++) {
             int row = source.rowAt(from + i);
             if (made.lacksColumnOf(row)) {
@@ -712,7 +712,7 @@ public final class YesNoPowers {
         }
 
         void becomeNumbered(int size, int number) {
-            becomeEmpty(size);
+            n = size;
             for (int i = 0; i < n && i < MOST_ROOT_SIZE; i++) {
                 rows[i] = (number >> (n * i)) & allColumns();
             }
@@ -725,16 +725,9 @@ public final class YesNoPowers {
             }
         }
 
-        void becomeEmpty(int size) {
-            n = size;
-            for (int i = 0; i < n; i++) {
-                rows[i] = 0;
-            }
-        }
-
         /** What 0 to 4 are those of make(). */
         void becomePlain(int size, int what) {
-            becomeEmpty(size);
+            n = size;
             for (int i = 0; i < n; i++) {
                 int next = i == n - 1 ? 0 : i + 1;
                 rows[i] = what == 0 ? 0 : what == 1 ? allColumns() : what == 2 ? 1 << i : 1 << next;

@@ -12,12 +12,13 @@ public final class AgainstNaiveTest {
     /** What is drawn more often, so that slots fill, chains run and sheets hold rows. */
     private static final String[] OFTEN = {
         "make", "make", "setRow", "setRow", "put", "times", "derive", "link", "run", "would", "undo", "sheet",
-        "cell", "spill", "load", "closing", "reason", "root", "roots", "part", "parts", "ofClass", "told", "bound",
+        "cell", "spill", "load", "closing", "reason", "root", "roots", "part", "parts", "ofClass", "told", "bound", "space", "basis",
     };
     private static final int[] FAR = {Integer.MIN_VALUE, Integer.MAX_VALUE, -1, -2, 13, 40, 41, 100, 1000000, 1000001};
 
     private final Random random;
     private final int size;
+    private final boolean dense;
     private final YesNoPowers x = new YesNoPowers();
     private final NaivePowers naive = new NaivePowers();
     private final List<String> calls = new ArrayList<>();
@@ -25,6 +26,7 @@ public final class AgainstNaiveTest {
     private AgainstNaiveTest(int run) {
         random = new Random(run);
         size = run % 3 == 0 ? 4 : run % 3 == 1 ? 6 : 12;
+        dense = run % 5 == 0;
     }
 
     public static void main(String[] args) throws Exception {
@@ -139,8 +141,11 @@ public final class AgainstNaiveTest {
         return size == 12 ? random.nextInt(2) == 0 ? 8 : 4 : 0;
     }
 
-    /** Few columns mostly, or all tables would soon lead everywhere. */
+    /** Few columns mostly, or all tables would soon lead everywhere; in some runs many, for the sake of spaces. */
     private int drawSet() {
+        if (dense) {
+            return random.nextInt(1 << size);
+        }
         int set = 1 << random.nextInt(Math.max(1, size - random.nextInt(2) * 8));
         return random.nextInt(3) == 0 ? set | random.nextInt(1 << size) & random.nextInt(1 << size) : set;
     }

@@ -155,6 +155,11 @@ public final class PromiseTest {
         due("no slot", x.put(6, 0, 0, 1), -1);
         due("no slot", x.put(-1, 0, 0, 1), -1);
         due("extremes", x.put(TOP, LOW, TOP, LOW), -1);
+        x.make(1, 4, 1);
+        due("another slot was the last", x.put(0, 0, 1, 1), 0);
+        rowsDue(x, 0, 2, 0, 0);
+        x.undo();
+        x.undo();
         rowsDue(x, 0, 0, 0, 0);
         due("count(2)", x.count(2), 5);
     }
@@ -205,6 +210,11 @@ public final class PromiseTest {
         due("i", x.setRow(0, -1, 1), -1);
         due("no table", x.setRow(3, 0, 1), -1);
         due("no slot", x.setRow(7, 0, 1), -1);
+        x.make(1, 4, 1);
+        due("another slot was the last", x.setRow(0, 1, 2), 7);
+        rowsDue(x, 0, 1, 2, 0);
+        x.undo();
+        x.undo();
         rowsDue(x, 0, 1, 7, 0);
         due("count(2)", x.count(2), 4);
     }
@@ -316,6 +326,11 @@ public final class PromiseTest {
         due("clear again", x.clear(2), 0);
         due("the log gets nothing", x.count(2), 2);
         due("no slot", x.clear(6), -1);
+        x.make(4, 1, 0);
+        due("clear of 1", x.clear(4), 1);
+        due("told", x.told(4, 0), 0);
+        due("undo", x.undo(), 4);
+        due("undo", x.undo(), 4);
         due("no slot", x.clear(-1), -1);
         due("undo", x.undo(), 2);
         due("told", x.told(2, 5), 49);
@@ -516,6 +531,9 @@ public final class PromiseTest {
         due("2 with a loop", x.bound(0, 2), 6);
         x.put(0, 3, 3, 1);
         due("2 with two loops", x.bound(0, 2), 5);
+        x.make(3, 6, 4);
+        due("1 of another slot", x.bound(3, 1), 26);
+        due("1 of the first again", x.bound(0, 1), 6);
         x.make(1, 3, 1);
         x.put(1, 0, 0, 0);
         x.put(1, 1, 1, 0);
@@ -617,6 +635,9 @@ public final class PromiseTest {
         due("parts", x.parts(0, 1, 1), 4);
         due("parts", x.parts(0, 1, 2), 8);
         due("no part", x.parts(0, 1, 3), -1);
+        x.make(2, 3, 3);
+        due("parts with member 0", x.parts(2, 0, 0), 1);
+        due("parts with member 0", x.parts(2, 0, 2), 4);
         due("no part", x.parts(0, 1, -1), -1);
         due("period 0", x.parts(0, 0, 0), -15);
         due("period 0 is named ahead of the part", x.parts(0, 0, -1), -15);
@@ -668,6 +689,14 @@ public final class PromiseTest {
         due("basis by rows", x.space(2, 1), 2);
         due("basis by columns", x.space(2, 3), 2);
         due("what", x.space(0, 5), -1);
+        give(x, 2, 0b0111, 0b1010, 0b1100, 0);
+        due("3 rows", x.space(2, 1), 3);
+        due("but 4 columns", x.space(2, 3), 4);
+        due("as many unions of rows", x.space(2, 0), 6);
+        due("as of columns", x.space(2, 2), 6);
+        x.derive(2, 1, 2);
+        due("turned: 4 rows", x.space(2, 1), 4);
+        due("turned: 3 columns", x.space(2, 3), 3);
         due("what", x.space(0, -1), -1);
         due("no table", x.space(5, 0), -1);
         due("no slot", x.space(6, 0), -1);
@@ -720,6 +749,12 @@ public final class PromiseTest {
         x.make(4, 3, 0);
         due("one lies in the other", x.alike(0, 4, 0), 0);
         due("one lies in the other", x.alike(4, 0, 0), 0);
+        give(x, 4, 1, 0, 0);
+        give(x, 5, 0, 0, 0);
+        due("but for row 0", x.alike(4, 5, 0), 0);
+        due("but for row 0", x.alike(5, 4, 0), 0);
+        due("but for column 0", x.alike(5, 4, 1), 0);
+        x.clear(5);
         x.make(4, 4, 0);
         due("unlike", x.alike(0, 4, 0), -3);
         due("what is named ahead", x.alike(0, 4, 2), -1);
@@ -928,6 +963,11 @@ public final class PromiseTest {
         due("none such", x.reason(LOW), -2);
         x.loosen();
         due("would without links", x.would(0), 2);
+        x.link(3, 3);
+        due("stops at the first", x.would(0), -20);
+        due("reason", x.reason(2), 103);
+        x.loosen();
+        due("would without links", x.would(0), 2);
         due("none such", x.closing(0), -2);
         due("none such", x.reason(0), -2);
         for (int i = 0; i < 8; i++) {
@@ -1120,6 +1160,9 @@ public final class PromiseTest {
         due("what", x.count(-1), -1);
         x.clear(5);
         due("tables", x.count(0), 1);
+        x.make(5, 1, 0);
+        due("tables, one of 1", x.count(0), 2);
+        x.undo();
         due("log", x.count(2), 3);
     }
 }
