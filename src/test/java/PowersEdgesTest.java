@@ -244,6 +244,18 @@ public final class PowersEdgesTest {
             ! told 0 6 = BAD
             ! told 0 7 = BAD
             """);
+        Runs.test("promise 15", "Of a SLOT: also where another one was changed last", """
+            make 0 3 2 = 3
+            give 1 6 5 1
+            ! told 0 0 = 3
+            ! told 0 1 = 1
+            ! told 0 2 = 1
+            ! told 0 3 = 1
+            ! told 0 4 = 0
+            ! told 0 5 = 3
+            ! told 0 6 = 1
+            ! told 0 7 = 1
+            """);
         Runs.test("promise 15", "what is asked of a SLOT leaves it and the others", """
             give 0 2 4 3
             make 1 4 1 = 4
@@ -579,6 +591,25 @@ public final class PowersEdgesTest {
             derive 0 1 0 = 12
             ofClass 0 0 4 = 11
             ofClass 0 11 4 = 0
+            """);
+        Runs.test("term 1", "CLASSES, GIRTH, PERIOD, LEVEL and BELOW are of one TABLE, whatever another one has", """
+            give 0 0 1 2 4 8 16 32 64 128 256 512 1024
+            give 1 2 4 1
+            make 2 3 0 = 3
+            ofClass 0 0 4 = 11
+            ofClass 1 0 4 = 0
+            ofClass 1 0 3 = 3
+            ofClass 2 0 4 = 0
+            ofClass 2 0 3 = 0
+            ofClass 2 0 2 = 0
+            ofClass 1 0 2 = 3
+            ofClass 0 11 6 = 11
+            ofClass 2 2 6 = 0
+            ofClass 2 2 7 = 0
+            ofClass 0 11 4 = 0
+            ofClass 2 2 4 = 0
+            part 1 2 = 2
+            part 0 0 = BY_NOUGHT
             """);
         Runs.test("term 1", "BELOW it: all other CLASSES to which there is a WALK from it: none and all", """
             give 0 2 4 8 16 32 64 128 256 512 1024 2048 0

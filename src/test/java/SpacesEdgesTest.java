@@ -163,6 +163,21 @@ public final class SpacesEdgesTest {
             ! space 1 2 = 6
             ! space 1 3 = 3
             """);
+        Runs.test("promise 24", "Of the SPACE of a SLOT: also where another one was changed last", """
+            give 0 7 10 12 0
+            make 5 5 2 = 5
+            space 0 0 = 6
+            space 0 1 = 3
+            space 0 2 = 6
+            space 0 3 = 4
+            make 5 5 2 = 5
+            space 0 1 = 3
+            make 5 3 2 = 3
+            give 4 6 5 3
+            space 5 4 = 1
+            make 3 2 0 = 2
+            space 4 4 = 0
+            """);
         Runs.test("promise 24", "BAD: no such what", """
             make 0 2 2 = 2
             space 0 0 = 4
@@ -326,6 +341,22 @@ public final class SpacesEdgesTest {
             ! roots 0 9 = BAD
             ! roots 0 0 = BAD
             ! roots 0 -2 = BAD
+            """);
+        Runs.test("term 1", "ROOT of a degree d: each degree is another one", """
+            make 0 3 1 = 3
+            roots 0 2 = 73
+            roots 0 3 = 115
+            roots 0 4 = 133
+            roots 0 5 = 139
+            roots 0 8 = 139
+            make 0 4 1 = 4
+            roots 0 2 = 6003
+            roots 0 3 = 19599
+            roots 0 4 = 24027
+            roots 0 5 = 25215
+            roots 0 6 = 25527
+            roots 0 7 = 25527
+            roots 0 8 = 25527
             """);
         Runs.test("term 1", "of a TABLE of n up to 4", """
             make 0 1 2 = 1

@@ -63,6 +63,31 @@ public final class TablesEdgesTest {
             told 0 5 = 4
             ! setRow 0 0 4 = BAD
             """);
+        Runs.test("term 1", "nothing that is told of a TABLE tells of a larger one that was there", """
+            make 0 12 1 = 12
+            make 1 12 1 = 12
+            make 0 3 2 = 3
+            make 1 3 2 = 3
+            same 0 1 = 1
+            told 0 1 = 1
+            told 0 5 = 3
+            told 0 6 = 1
+            told 0 7 = 1
+            classes 0 = 3
+            space 0 0 = 8
+            space 0 2 = 8
+            spans 0 5 = 1
+            alike 0 1 1 = 1
+            reaches 0 1 = 1
+            roots 0 2 = 4
+            root 0 2 0 = 84
+            table 0 = 4 2 1
+            plus 0 1 0 = 3
+            table 0 = 5 2 5
+            sheet 0 1 12 = 1
+            spill 0 0 0 = 3
+            row 0 0 = 5 2 5 0 0 0 0 0 0 0 0 0
+            """);
         Runs.test("term 1", "Rows and columns are told as bits (bit j of row i, bit i of column j)", """
             make 0 12 0 = 12
             put 0 0 11 1 = 0
@@ -129,6 +154,18 @@ public final class TablesEdgesTest {
             link 6 1 = 1
             run 0 = 2
             table 0 = 1 0
+            make 1 12 3 = 12
+            make 0 12 1 = 12
+            loosen = 1
+            link 6 1 = 1
+            run 0 = 12
+            table 0 = 2 4 8 16 32 64 128 256 512 1024 2048 1
+            make 1 1 1 = 1
+            make 0 1 1 = 1
+            loosen = 1
+            link 6 1 = 1
+            run 0 = 1
+            table 0 = 1
             """);
         Runs.test("term 1", "COMPLEMENT: where it has 0", """
             make 0 12 0 = 12
@@ -335,6 +372,16 @@ public final class TablesEdgesTest {
             put 0 0 0 0 = 1
             table 0 = 4 0 1
             """);
+        Runs.test("promise 3", "of a SLOT: of that SLOT alone", """
+            make 0 3 2 = 3
+            make 5 2 1 = 2
+            put 0 0 2 1 = 0
+            table 0 = 5 2 4
+            table 5 = 3 3
+            put 5 1 0 0 = 1
+            table 0 = 5 2 4
+            table 5 = 3 2
+            """);
         Runs.test("promise 3", "i, j of n 12 and of n 1", """
             make 0 12 0 = 12
             put 0 11 11 1 = 0
@@ -462,6 +509,16 @@ public final class TablesEdgesTest {
             table 0 = 6 2 3
             setRow 0 2 3 = 3
             count 2 = 4
+            """);
+        Runs.test("promise 6", "of a SLOT: of that SLOT alone", """
+            make 0 3 2 = 3
+            make 5 2 1 = 2
+            setRow 0 0 6 = 1
+            table 0 = 6 2 4
+            table 5 = 3 3
+            setRow 5 1 0 = 3
+            table 0 = 6 2 4
+            table 5 = 3 0
             """);
         Runs.test("promise 6", "a set: empty and full", """
             make 0 3 2 = 3
