@@ -4,6 +4,7 @@ public final class TablesEdgesTest {
         sizes();
         operations();
         newObject();
+        calls();
         make();
         put();
         at();
@@ -271,6 +272,18 @@ public final class TablesEdgesTest {
             row 1 0 = missing
             row 2 0 = missing
             row 3 0 = missing
+            """);
+    }
+
+    /** 1 + 507 + 4 calls, so that the last one is the 512th. */
+    private static void calls() {
+        Runs.test("what it is", "An object is used for at most 512 calls: the 512th is answered as the first", """
+            make 0 2 2 = 2
+            507 * put 0 0 0 1 = 1
+            put 0 0 1 1 = 0
+            count 2 = 20
+            undo = 0
+            told 0 5 = 2
             """);
     }
 
