@@ -18,7 +18,7 @@ public final class YesNoPowers {
     private final Powers powers = new Powers();
     private final Rings rings = new Rings();
     private final Spaces spaces = new Spaces();
-    private final Chain chain = new Chain(powers);
+    private final Chain chain = new Chain();
     /** What a call makes, before a slot takes it over: so a slot may be read and written by one call. */
     private final Table made = new Table();
 
@@ -1246,10 +1246,9 @@ public final class YesNoPowers {
         private final Table changed = new Table();
         private final Link[] links = new Link[MOST];
         private final int[] borrowings = new int[MOST];
-        private final Powers powers;
+        private final Powers powers = new Powers();
 
-        Chain(Powers powers) {
-            this.powers = powers;
+        Chain() {
             for (int i = 0; i < MOST; i++) {
                 links[i] = new Link();
             }

@@ -98,6 +98,10 @@ public final class FaceTest {
                 fields += ofClass ? 0 : 1;
             }
             holds(one + ": some twenty fields", fields <= 20);
+            // Nothing of an object in the making is handed out, if no constructor of a class inside takes anything.
+            for (Constructor<?> constructor : one.getDeclaredConstructors()) {
+                due(constructor + " takes", constructor.getParameterCount(), 0);
+            }
             for (Method method : one.getDeclaredMethods()) {
                 holds(method + ": seven parameters", method.getParameterCount() <= 7);
                 boolean own = !Modifier.isPublic(method.getModifiers());
